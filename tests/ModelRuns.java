@@ -28,6 +28,8 @@ public final class ModelRuns {
       "register", "register", "register", "move", "move", "setRevoked", "setRevoked", "issueByRegistry",
       "issueByRegistry", "issue", "issue", "issue", "issue", "withdraw", "sow", "pass", "pass", "undo",
       "saveSnapshot", "restoreSnapshot", "TEXT", "TEXT", "TEXT");
+  private static final List<String> REMOVALS = List.of(
+      "move", "setRevoked", "withdraw", "pass", "undo", "restoreSnapshot");
   private static final List<Method> FACE = face();
 
   public static void main(String[] args) throws ReflectiveOperationException {
@@ -71,12 +73,16 @@ public final class ModelRuns {
     private final ScarecrowRegistry registry = new ScarecrowRegistry();
     private final Model model = new Model();
     private final List<String> calls = new ArrayList<>();
+    /** Wrong arguments are rare. */
     private final boolean isCalm;
+    /** Much is added and little removed, so that the limits are reached. */
+    private final boolean isCrowded;
 
     OneRun(int number) {
       this.number = number;
       this.random = new Random(number);
       this.isCalm = number % 3 != 0;
+      this.isCrowded = number % 2 == 0;
     }
 
     boolean agrees() throws ReflectiveOperationException {
@@ -87,7 +93,8 @@ public final class ModelRuns {
           agrees = isLeftOut(method.getName()) || agreesOn(method, arguments(method));
         } else {
           String change = CHANGES.get(random.nextInt(CHANGES.size()));
-          agrees = change.equals("TEXT") ? agreesOnText() : agreesOnChange(change);
+          boolean isText = change.equals("TEXT") && (!isCrowded || random.nextInt(8) == 0);
+          agrees = isText ? agreesOnText() : agreesOnChange(change.equals("TEXT") ? "issue" : change);
         }
         if (!agrees) {
           return false;
@@ -103,10 +110,11 @@ public final class ModelRuns {
     }
 
     private boolean agreesOnChange(String name) throws ReflectiveOperationException {
-      Method method = faceMethod(name);
-      if (name.equals("restoreSnapshot") && random.nextInt(4) > 0) {
+      boolean isRemoval = name.equals("restoreSnapshot") || (isCrowded && REMOVALS.contains(name));
+      if (isRemoval && random.nextInt(6) > 0) {
         return true;
       }
+      Method method = faceMethod(name);
       return agreesOn(method, arguments(method));
     }
 
@@ -176,9 +184,9 @@ public final class ModelRuns {
         case "pass": case "predictEaten":
           return 1 + random.nextInt(random.nextInt(4) == 0 ? 60 : 5);
         case "issueByRegistry":
-          return index == 0 ? scarecrow() : random.nextInt(30);
+          return index == 0 ? scarecrow() : random.nextInt(isCrowded ? 100 : 30);
         case "issue":
-          return index < 2 ? scarecrow() : random.nextInt(30);
+          return index == 0 ? issuer() : index == 1 ? scarecrow() : random.nextInt(isCrowded ? 100 : 30);
         case "lineCharacter":
           return random.nextInt(21);
         case "fieldOf": case "isRevoked": case "isCertified": case "isCertifiedByChains":
@@ -191,6 +199,21 @@ public final class ModelRuns {
 
     private int scarecrow() {
       return random.nextInt(model.now.scarecrows.size() + 1);
+    }
+
+    /** The farthest certified one of a few scarecrows, so that long chains come about. */
+    private int issuer() {
+      int issuer = scarecrow();
+      int farthest = 0;
+      for (int draw = 0; draw < 4; draw++) {
+        int drawn = scarecrow();
+        int length = drawn < model.now.scarecrows.size() ? model.now.shortest(drawn, Set.of()) : 99;
+        if (length < 99 && length > farthest) {
+          issuer = drawn;
+          farthest = length;
+        }
+      }
+      return issuer;
     }
 
     private int certificate() {

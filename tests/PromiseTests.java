@@ -248,17 +248,59 @@ public final class PromiseTests {
         inForceCount() -> 5
         isCertifiedByChains(1) -> true
         """);
-    promise("9, 10 and 11 the longest chain, issued from its end", """
+    promise("9 and 10 one of several issuers is enough", """
         register(0) -> 0
         register(1) -> 1
         register(2) -> 2
         register(3) -> 3
-        register(4) -> 4
-        register(5) -> 5
-        register(6) -> 6
-        register(7) -> 7
-        register(8) -> 8
-        register(9) -> 9
+        issueByRegistry(1, 9) -> 0
+        issue(1, 3, 9) -> 1
+        issueByRegistry(0, 9) -> 2
+        issueByRegistry(2, 9) -> 3
+        issue(2, 3, 9) -> 4
+        issue(0, 3, 9) -> 5
+        move(0, 15) -> 0
+        move(2, 14) -> 2
+        isCertified(3) -> true
+        isCertifiedByChains(3) -> true
+        withdraw(1) -> 3
+        isCertified(3) -> false
+        isCertifiedByChains(3) -> false
+        move(2, 2) -> 14
+        isCertified(3) -> true
+        isCertifiedByChains(3) -> true
+        """);
+    promise("9, 10 and 24 after twenty certificates none is left", "register(0) -> 0\nregister(1) -> 1\n"
+        + counted("issueByRegistry(1, 9) -> #", 20) + """
+        isCertifiedByChains(1) -> true
+        19x withdraw(0) -> 1
+        isCertifiedByChains(1) -> true
+        withdraw(0) -> 1
+        isCertified(1) -> false
+        isCertifiedByChains(1) -> false
+        inForceCount() -> 0
+        daysUntilUncertified(1) -> 0
+        """);
+    promise("9, 10 and 11 the longest chain, issued from its beginning",
+        counted("register(#) -> #", 10) + """
+        issueByRegistry(0, 9) -> 0
+        issue(0, 1, 9) -> 1
+        issue(1, 2, 9) -> 2
+        issue(2, 3, 9) -> 3
+        issue(3, 4, 9) -> 4
+        issue(4, 5, 9) -> 5
+        issue(5, 6, 9) -> 6
+        issue(6, 7, 9) -> 7
+        issue(7, 8, 9) -> 8
+        issue(8, 9, 9) -> 9
+        isCertified(9) -> true
+        isCertifiedByChains(9) -> true
+        chainLength(9) -> 10
+        daysUntilUncertified(9) -> 10
+        setRevoked(0, true) -> 0
+        isCertifiedByChains(9) -> false
+        """);
+    promise("9, 10 and 11 the longest chain, issued from its end", counted("register(#) -> #", 10) + """
         issueByRegistry(8, 0) -> 0
         issue(8, 9, 99) -> 1
         issueByRegistry(7, 0) -> 2
@@ -413,6 +455,9 @@ public final class PromiseTests {
         certificateCount() -> 20
         lastDayOf(19) -> 19
         withdraw(0) -> 0
+        lastDayOf(0) -> 1
+        lastDayOf(18) -> 19
+        lastDayOf(19) -> throws.IndexOutOfBoundsException
         issueByRegistry(0, 50) -> 19
         lastDayOf(19) -> 50
         """);
@@ -782,6 +827,22 @@ public final class PromiseTests {
         move(1, 7) -> 6
         guardedFields() -> 5
         guardedFieldsByScarecrows() -> 5
+        """);
+    promise("32 and 33 guards above, below and beside each other", """
+        register(9) -> 0
+        register(5) -> 1
+        issueByRegistry(0, 9) -> 0
+        issueByRegistry(1, 9) -> 1
+        guardedFields() -> 8
+        guardedFieldsByScarecrows() -> 8
+        register(10) -> 2
+        issueByRegistry(2, 9) -> 2
+        guardedFields() -> 10
+        guardedFieldsByScarecrows() -> 10
+        register(0) -> 3
+        issueByRegistry(3, 9) -> 3
+        guardedFields() -> 11
+        guardedFieldsByScarecrows() -> 11
         """);
   }
 
@@ -1174,15 +1235,22 @@ public final class PromiseTests {
         """);
     promise("48 withdraw is undone, too", """
         register(0) -> 0
+        register(7) -> 1
         issueByRegistry(0, 1) -> 0
-        issueByRegistry(0, 2) -> 1
-        issueByRegistry(0, 3) -> 2
-        withdraw(1) -> 0
+        issueByRegistry(1, 2) -> 1
+        issue(1, 0, 3) -> 2
+        withdraw(1) -> 1
         lastDayOf(1) -> 3
-        undo() -> 4
+        undo() -> 5
         certificateCount() -> 3
         lastDayOf(1) -> 2
         lastDayOf(2) -> 3
+        subjectOf(1) -> 1
+        subjectOf(2) -> 0
+        addressOf(1) -> 7
+        addressOf(2) -> 0
+        isByRegistry(1) -> true
+        issuerOf(2) -> 1
         """);
     promise("49 calls that throw are no changes", """
         register(16) -> throws.IllegalArgumentException

@@ -996,7 +996,6 @@ public final class ScarecrowRegistry {
 
     void clear() {
       length = 0;
-      position = 0;
     }
 
     void rewind() {
