@@ -798,20 +798,27 @@ public final class ScarecrowRegistry {
       return backed;
     }
 
+    int subjectsOf(int someCertificates) {
+      int found = 0;
+      for (int certificate = 0; certificate < certificates; certificate++) {
+        if (has(someCertificates, certificate)) {
+          found |= 1 << subjects.get(certificate);
+        }
+      }
+      return found;
+    }
+
     /**
      * The scarecrows that chains of at most so many certificates reach from the registry on a day.
-     * Growing from no scarecrow at all, so that certificates in a circle cannot support each other.
+     * Growing from no scarecrow at all, so that certificates in a circle cannot support each other,
+     * until a round adds nothing: then no later one would.
      */
     int certifiedWithin(int length, int onDay) {
       int certified = 0;
-      for (int round = 0; round < length; round++) {
-        int backed = backedBy(certified, onDay);
-        for (int certificate = 0; certificate < certificates; certificate++) {
-          if (has(backed, certificate)) {
-            certified |= 1 << subjects.get(certificate);
-          }
-        }
-        certified &= ~revoked;
+      int ofShorterChains = NONE;
+      for (int round = 0; round < length && certified != ofShorterChains; round++) {
+        ofShorterChains = certified;
+        certified = subjectsOf(backedBy(certified, onDay)) & ~revoked;
       }
       return certified;
     }
