@@ -269,6 +269,11 @@ public final class PromiseTests {
         move(2, 2) -> 14
         isCertified(3) -> true
         isCertifiedByChains(3) -> true
+        move(2, 14) -> 2
+        isCertifiedByChains(3) -> false
+        move(0, 0) -> 15
+        isCertified(3) -> true
+        isCertifiedByChains(3) -> true
         """);
     promise("9, 10 and 24 after twenty certificates none is left", "register(0) -> 0\nregister(1) -> 1\n"
         + counted("issueByRegistry(1, 9) -> #", 20) + """
