@@ -1,22 +1,9 @@
-import java.lang.reflect.InvocationTargetException;
-import java.lang.reflect.Method;
-import java.util.ArrayList;
-import java.util.List;
-
 /**
  * At least one script for each promise of the document: ordinary inputs, the edges that the document
- * names, and wrong inputs.
- *
- * A script runs on a new object, line by line:
- *   call(arguments) -> answer              the answer of a call, or throws.TheException
- *   3x call(arguments) -> answer           the same several times
- *   type TEXT                              feeds the characters of the text
- *   run TEXT -> answer                     feeds the text and calls execute
- *   line -> TEXT                           the output line, read to its end
+ * names, and wrong inputs. How a script is written is told in support/Scripts.java.
  */
 public final class PromiseTests {
-  private static int passed = 0;
-  private static int failed = 0;
+  private static final Scripts SCRIPTS = new Scripts("promises");
 
   public static void main(String[] args) {
     scarecrows();
@@ -30,10 +17,7 @@ public final class PromiseTests {
     denials();
     undoAndSnapshots();
     objectsAreApart();
-    System.out.println(passed + " scripts passed, " + failed + " scripts failed");
-    if (failed != 0) {
-      System.exit(1);
-    }
+    SCRIPTS.end();
   }
 
   // ---- the promises
@@ -1353,116 +1337,17 @@ public final class PromiseTests {
         lineCharacter(0) -> throws.IndexOutOfBoundsException
         restoreSnapshot() -> throws.IllegalStateException
         """);
-    if (one.scarecrowCount() != 1 || one.day() != 5 || one.undoCount() != 2 || one.feed('y') != 2) {
-      System.out.println("1 objects are apart: the first object has changed");
-      failed++;
-    }
+    SCRIPTS.holds("1 objects are apart: the first one has not changed",
+        one.scarecrowCount() == 1 && one.day() == 5 && one.undoCount() == 2 && one.feed('y') == 2);
   }
 
   // ---- the scripts
 
   private static String counted(String line, int times) {
-    StringBuilder lines = new StringBuilder();
-    for (int index = 0; index < times; index++) {
-      lines.append(line.replace("#", "" + index)).append('\n');
-    }
-    return lines.toString();
+    return Scripts.counted(line, times);
   }
 
   private static void promise(String name, String script) {
-    ScarecrowRegistry registry = new ScarecrowRegistry();
-    boolean holds = true;
-    for (String line : script.split("\n")) {
-      try {
-        String wrong = perform(registry, line);
-        if (wrong != null) {
-          System.out.println("promise " + name + ": " + line + " but answered " + wrong);
-          holds = false;
-        }
-      } catch (ReflectiveOperationException e) {
-        throw new IllegalStateException("the line cannot be read: " + line, e);
-      }
-    }
-    if (holds) {
-      passed++;
-    } else {
-      failed++;
-    }
-  }
-
-  /** Performs a line and returns the answer if it is not the one that is due, and otherwise null. */
-  private static String perform(ScarecrowRegistry registry, String line)
-      throws ReflectiveOperationException {
-    if (line.startsWith("type ")) {
-      return type(registry, line.substring("type ".length()));
-    }
-    int arrow = line.lastIndexOf(" -> ");
-    String call = line.substring(0, arrow);
-    String due = line.substring(arrow + " -> ".length());
-    if (call.startsWith("run ")) {
-      type(registry, call.substring("run ".length()));
-      call = "execute()";
-    }
-    int times = 1;
-    if (Character.isDigit(call.charAt(0))) {
-      int x = call.indexOf("x ");
-      times = Integer.parseInt(call.substring(0, x));
-      call = call.substring(x + 2);
-    }
-    for (int time = 0; time < times; time++) {
-      String answer = call.equals("line") ? readLine(registry) : answer(registry, call);
-      boolean free = due.equals("*") && !answer.startsWith("throws.");
-      if (!free && !answer.equals(due)) {
-        return answer;
-      }
-    }
-    return null;
-  }
-
-  private static String type(ScarecrowRegistry registry, String text) {
-    for (char character : text.toCharArray()) {
-      registry.feed(character);
-    }
-    return null;
-  }
-
-  private static String readLine(ScarecrowRegistry registry) {
-    StringBuilder line = new StringBuilder();
-    try {
-      while (line.length() < 100) {
-        line.append(registry.lineCharacter(line.length()));
-      }
-    } catch (IndexOutOfBoundsException e) {
-      return line.toString();
-    }
-    return "a line without an end";
-  }
-
-  private static String answer(ScarecrowRegistry registry, String call)
-      throws ReflectiveOperationException {
-    int open = call.indexOf('(');
-    String name = call.substring(0, open);
-    String inside = call.substring(open + 1, call.length() - 1);
-    List<Object> arguments = new ArrayList<>();
-    List<Class<?>> types = new ArrayList<>();
-    for (String part : inside.isEmpty() ? new String[0] : inside.split(", ")) {
-      if (name.equals("feed")) {
-        types.add(char.class);
-        arguments.add(part.startsWith("'") ? part.charAt(1) : (char) Integer.parseInt(part));
-      } else if (part.equals("true") || part.equals("false")) {
-        types.add(boolean.class);
-        arguments.add(part.equals("true"));
-      } else {
-        types.add(int.class);
-        arguments.add(Integer.parseInt(part));
-      }
-    }
-    Method method = ScarecrowRegistry.class.getMethod(name, types.toArray(new Class<?>[0]));
-    try {
-      Object answer = method.invoke(registry, arguments.toArray());
-      return answer instanceof Character ? "'" + answer + "'" : String.valueOf(answer);
-    } catch (InvocationTargetException e) {
-      return "throws." + e.getCause().getClass().getSimpleName();
-    }
+    SCRIPTS.holds(name, script);
   }
 }
