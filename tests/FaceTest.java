@@ -82,9 +82,12 @@ public final class FaceTest {
         && constructors[0].getParameterCount() == 0, "one public constructor");
     check(publicFace(type).equals(FACE), "the public methods: " + publicFace(type));
     checkMembers(type);
+    checkSize(type);
+    check(type.getDeclaredClasses().length < 12, "at most some twelve classes");
     for (Class<?> inside : type.getDeclaredClasses()) {
       check(Modifier.isStatic(inside.getModifiers()), inside + " is static");
       check(!Modifier.isPublic(inside.getModifiers()), inside + " is not public");
+      checkSize(inside);
       for (Method method : inside.getDeclaredMethods()) {
         checkName(method);
       }
@@ -138,6 +141,16 @@ public final class FaceTest {
       check(Modifier.isPrivate(field.getModifiers()), field + " is private");
       check(!Modifier.isStatic(field.getModifiers()) || Modifier.isFinal(field.getModifiers()),
           field + " is final if static");
+    }
+  }
+
+  /** LANGUAGE.md, rule 11. */
+  private static void checkSize(Class<?> type) {
+    long fields = Arrays.stream(type.getDeclaredFields())
+        .filter(field -> !Modifier.isStatic(field.getModifiers())).count();
+    check(fields <= 20, type + " has at most some twenty fields");
+    for (Method method : type.getDeclaredMethods()) {
+      check(method.getParameterCount() <= 7, method + " takes at most seven parameters");
     }
   }
 
